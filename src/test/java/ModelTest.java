@@ -1,9 +1,13 @@
 import java.util.Random;
 
-/** Runs of 512 drawn calls: what the class answers, the Model answers, and all that can be seen. */
+/**
+ * Runs of drawn calls, and a look round at their end: what the class answers, the Model answers.
+ * No object is asked more than 512 times: what it answers then is free.
+ */
 public final class ModelTest {
-    private static final int RUNS = 1500;
+    private static final int RUNS = 20000;
     private static final int CALLS = 512;
+    private static final int CALLS_BEFORE_LOOK = 360;
     private static final int[] WILD = {
         Integer.MIN_VALUE, Integer.MAX_VALUE, -1000009, -1000003, -1, 64, 100, 101, 1 << 16, 1 << 30
     };
@@ -18,6 +22,7 @@ public final class ModelTest {
     private final int wrongness;
     private final int zeros;
     private final boolean longRuns;
+    private int made = 0;
 
     private ModelTest(long seed) {
         random = new Random(seed);
@@ -36,11 +41,13 @@ public final class ModelTest {
     }
 
     private void run(int seed) {
-        for (int call = 0; call < CALLS && due.wrong() == 0; call++) {
+        int last = random.nextInt(4) == 0 ? random.nextInt(CALLS_BEFORE_LOOK) : CALLS_BEFORE_LOOK;
+        while (made < last && due.wrong() == 0) {
             oneCall(drawnCall());
-            if (call % 16 == 0) {
-                compareAll();
-            }
+        }
+        lookRound();
+        if (made > CALLS) {
+            due.say("the test has made " + made + " calls");
         }
         if (due.wrong() != 0) {
             System.out.println("run " + seed + ": " + calls);
@@ -60,16 +67,16 @@ public final class ModelTest {
     }
 
     private int rowNumber() {
-        return number(Math.max(1, rows.count(0)));
+        return number(Math.max(1, (int) model.count(0)));
     }
 
     private int placeNumber() {
-        return number(rows.count(1) + 1);
+        return number((int) model.count(1) + 1);
     }
 
     /** STEPS and drawings anew come often; what ends or clears a RUN seldom where it is to be long. */
     private int drawnCall() {
-        if (rows.count(0) == 0 && random.nextInt(3) == 0) {
+        if (model.count(0) == 0 && random.nextInt(3) == 0) {
             return 5;
         }
         int pick = random.nextInt(200);
@@ -136,7 +143,7 @@ public final class ModelTest {
                 is("write", rows.write(a, b, c), model.write(a, b, c), a, b, c); break;
             case 15: a = number(3);
                 is("told", rows.told(a), model.told(a), a); break;
-            case 16: due.is("evidence()", rows.evidence(), model.evidence()); break;
+            case 16: compareEvidence(); break;
             case 17: a = number(5);
                 is("count", rows.count(a), model.count(a), a); break;
             case 19: setWholeTable(random.nextInt(3), random.nextInt(5)); break;
@@ -173,10 +180,17 @@ public final class ModelTest {
         }
         call.append(')');
         calls.append(call).append(" -> ").append(want).append("; ");
+        made++;
         due.is(call.toString(), got, want);
     }
 
+    private void compareEvidence() {
+        made++;
+        due.is("evidence()", rows.evidence(), model.evidence());
+    }
+
     private void compareHistory(int row, int place) {
+        made++;
         due.isText("history(" + row + ", " + place + ")", historyOfRows(row, place), historyOfModel(row, place));
     }
 
@@ -196,20 +210,30 @@ public final class ModelTest {
         }
     }
 
-    private void compareAll() {
+    /** All that is told, and as many ROWS, from a drawn one on, as there are calls left for. */
+    private void lookRound() {
         for (int what = -1; what <= 5; what++) {
-            due.is("count(" + what + ")", rows.count(what), model.count(what));
-            due.is("told(" + what + ")", rows.told(what), model.told(what));
+            is("count", rows.count(what), model.count(what), what);
         }
-        due.is("evidence()", rows.evidence(), model.evidence());
-        for (int row = -1; row <= rows.count(0); row++) {
-            due.is("from(" + row + ")", rows.from(row), model.from(row));
-            due.is("weight(" + row + ")", rows.weight(row), model.weight(row));
-            due.is("row(" + row + ", 0)", rows.row(row, 0), model.row(row, 0));
-            due.is("row(" + row + ", 1)", rows.row(row, 1), model.row(row, 1));
-            for (int place = -1; place <= rows.count(1) + 1; place++) {
-                compareHistory(row, place);
-            }
+        for (int what = -1; what <= 3; what++) {
+            is("told", rows.told(what), model.told(what), what);
+        }
+        compareEvidence();
+        int around = (int) model.count(0) + 2;
+        int first = random.nextInt(around);
+        int places = (int) model.count(1) + 3;
+        for (int k = 0; k < around && made + 4 + places <= CALLS; k++) {
+            lookAtRow((first + k) % around - 1, places);
+        }
+    }
+
+    private void lookAtRow(int row, int places) {
+        is("from", rows.from(row), model.from(row), row);
+        is("weight", rows.weight(row), model.weight(row), row);
+        is("row", rows.row(row, 0), model.row(row, 0), row, 0);
+        is("row", rows.row(row, 1), model.row(row, 1), row, 1);
+        for (int place = -1; place < places - 1; place++) {
+            compareHistory(row, place);
         }
     }
 }
