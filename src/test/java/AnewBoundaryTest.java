@@ -14,8 +14,11 @@ public final class AnewBoundaryTest {
         waysAreZeroToThree();
         putInTheOrderOfTheirNumbers();
         becomesAllThatThePickedOneIs();
+        drawnAnewAgainAndAgain();
         weightsAreOne();
         oneRowAlone();
+        aTotalOfOne();
+        sixteenRows();
         wayZeroByWeights();
         wayOneADrawEach();
         wayTwoOneDrawForAll();
@@ -128,6 +131,18 @@ public final class AnewBoundaryTest {
         due.isText("HISTORIES of each ROW's own", Look.history(x, 2) + Look.history(x, 3), "332033");
     }
 
+    private static void drawnAnewAgainAndAgain() {
+        ResampledRows x = weights(1, 1, 1, 1, 1);
+        picks("once", x, 0, draws(0, 0, 1, 2, 4), "0 0 1 2 4", 0);
+        picks("twice", x, 0, draws(1, 1, 2, 3, 4), "1 1 2 3 4", 0);
+        picks("three times", x, 0, draws(0, 1, 2, 2, 3), "0 1 2 2 3", 0);
+        due.isText("three times, STATES", Look.states(x), "00112");
+        due.isText("three times, HISTORIES", Look.history(x, 2) + Look.history(x, 3) + Look.history(x, 4), "111122");
+        due.is("how often DRAWN ANEW", x.count(2), 3);
+        x.write(2, 0, 5);
+        due.isText("HISTORIES of each ROW's own", Look.history(x, 2) + Look.history(x, 3), "5111");
+    }
+
     private static void weightsAreOne() {
         ResampledRows x = weights(9, 0, 4);
         x.keep(1);
@@ -150,6 +165,49 @@ public final class AnewBoundaryTest {
             picks("n is 1, KEPT, WAY " + way, x, way, draws(6, 5), "0", 2 - madeWithKept[way]);
             due.is("n is 1, KEPT", x.count(4), 0);
         }
+    }
+
+    /** A DRAW below 1 is made like any other. */
+    private static void aTotalOfOne() {
+        picks("T is 1, WAY 0", weights(0, 1, 0), 0, draws(7, 8, 9, 5), "1 1 1", 1);
+        picks("T is 1, WAY 1", weights(0, 1, 0), 1, draws(7, 8, 9, 5), "1 1 1", 1);
+        picks("T is 1, WAY 2", weights(0, 1, 0), 2, draws(7, 8, 9, 5), "1 1 1", 3);
+        picks("T is 1, WAY 3", weights(0, 1, 0), 3, draws(7, 8, 9, 5), "1 1 1", 4);
+    }
+
+    /** Sixteen ROWS, the last one without a WEIGHT and KEPT: T is 15. */
+    private static ResampledRows sixteen() {
+        ResampledRows x = new ResampledRows();
+        x.seen(3, 5, 0);
+        for (int time = 0; time < 2; time++) {
+            for (int k = 0; k < 16; k++) {
+                x.force(k < 15 ? k % 5 : 5);
+            }
+        }
+        x.begin(16, 4L);
+        x.step(3, 0);
+        x.keep(15);
+        return x;
+    }
+
+    private static void sixteenRows() {
+        int[] least = new int[16];
+        int[] greatest = new int[16];
+        java.util.Arrays.fill(greatest, 14);
+        String ones = "1 2 3 4 5 6 7 8 9 10 11 12 13";
+        picks("n is 16, WAY 0", sixteen(), 0, greatest, "14 14 14 14 14 14 14 14 14 14 14 14 14 14 14 15", 1);
+        picks("n is 16, WAY 1", sixteen(), 1, least, "0 " + ones + " 14 15", 1);
+        picks("n is 16, WAY 1", sixteen(), 1, greatest, ones + " 14 14 15", 1);
+        picks("n is 16, WAY 2", sixteen(), 2, least, "0 " + ones + " 14 15", 15);
+        picks("n is 16, WAY 2", sixteen(), 2, greatest, ones + " 14 14 15", 15);
+        picks("n is 16, WAY 3", sixteen(), 3, least, "0 0 " + ones + " 15", 15);
+        ResampledRows x = sixteen();
+        picks("n is 16, WAY 3", x, 3, greatest, "0 " + ones + " 14 15", 15);
+        due.is("n is 16, KEPT", x.count(4), 15);
+        x.keep(NONE);
+        x.force(15);
+        due.is("n is 16, all alike", x.again(2), 16);
+        due.isText("n is 16, all alike", Look.origins(x), "0 " + ones + " 14 15");
     }
 
     /** T is 10; the sums are 2 2 5 10. */

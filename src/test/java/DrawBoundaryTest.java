@@ -17,6 +17,7 @@ public final class DrawBoundaryTest {
         sixtyFourBitsWrapping();
         shiftedWithoutASign();
         moduloTheSum();
+        belowOneIsADrawToo();
         theFirstOneThatIsAbove();
         weightsOfZeroAreNeverDrawn();
         lostMakesNoDraw();
@@ -146,10 +147,21 @@ public final class DrawBoundaryTest {
         force(x, 53, 54, 55, 107, 108, Integer.MAX_VALUE, 0);
         x.begin(7, 1L);
         due.isText("modulo m", Look.states(x), "5005" + "0" + Integer.MAX_VALUE % 54 / 9 + "0");
+    }
+
+    /** Nothing is left to be decided, yet a DRAW is made: of the FORCED ones, or by x. */
+    private static void belowOneIsADrawToo() {
+        ResampledRows x = new ResampledRows();
         start(x, 0, 0, 0, 1, 0, 0);
-        force(x, 0, 1, 2, Integer.MAX_VALUE);
+        force(x, 0, 1, 2, Integer.MAX_VALUE, 5);
         x.begin(4, 1L);
         due.isText("modulo 1", Look.states(x), "3333");
+        due.is("modulo 1, the DRAWS are made", x.count(3), 1);
+        x.begin(3, 77L);
+        due.is("modulo 1, the DRAWS are made", x.count(3), 0);
+        x.step(0, 0);
+        due.is("modulo 1, x has gone on by two", x.row(0, 0), drawn(77L, 2, 6));
+        due.is("modulo 1, x has gone on by two", x.row(1, 0), drawn(77L, 3, 6));
     }
 
     private static void theFirstOneThatIsAbove() {
