@@ -96,6 +96,21 @@ public final class FaceTest {
                     due.say("static, but not final: " + field.getName());
                 }
             }
+            methodsInside(face, inside);
+        }
+        due.is("some twelve classes at most", face.getDeclaredClasses().length <= 11 ? 1 : 0, 1);
+    }
+
+    private static void methodsInside(Class<?> face, Class<?> inside) {
+        for (Method method : inside.getDeclaredMethods()) {
+            if (method.getParameterCount() > 7) {
+                due.say("more than seven parameters: " + method.getName());
+            }
+            for (Method open : face.getMethods()) {
+                if (open.getName().equals(method.getName())) {
+                    due.say(inside.getName() + " has a method that bears the name " + method.getName());
+                }
+            }
         }
     }
 }

@@ -24,6 +24,7 @@ public final class LanguageTest {
             due.is("ruled out: " + text, found.find() ? 1 : 0, 0);
         }
         throwsOnlyInHistory(code);
+        callsMakeNoObject(code);
         methodsAreShort(source);
         due.end();
     }
@@ -36,6 +37,22 @@ public final class LanguageTest {
             due.isText("thrown", thrown.group(1), "ArrayIndexOutOfBoundsException");
         }
         due.is("how many throw", times, 1);
+    }
+
+    /** What is made is made once for each object: in a field's initialiser, or in the constructor. */
+    private static void callsMakeNoObject(String code) {
+        Pattern made = Pattern.compile("\\bnew\\b|\\.clone\\(|copyOf");
+        boolean isInside = false;
+        for (String line : code.split("\n")) {
+            isInside |= line.matches(" {4}private static final class .*");
+            // Behind eight blanks stand the fields of the classes inside, but also a call's statements.
+            boolean isField = isInside && line.matches(" {8}(final )?[\\w\\[\\]]+ \\w+ = new .*;");
+            boolean isConstructors = line.matches(" {8}(tables|draws|run) = new \\w+\\(\\);");
+            boolean isThrown = line.trim().startsWith("throw new ");
+            if (made.matcher(line).find() && !isField && !isConstructors && !isThrown) {
+                due.say("made by a call: " + line.trim());
+            }
+        }
     }
 
     private static void methodsAreShort(String source) {
